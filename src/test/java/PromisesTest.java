@@ -34,6 +34,7 @@ public final class PromisesTest {
         span();
         worst();
         repeat();
+        trialsChangeNothing();
         age();
         bolt();
         matters();
@@ -48,6 +49,7 @@ public final class PromisesTest {
         work();
         share();
         undo();
+        actsApart();
         redo();
         count();
         Due.end();
@@ -136,7 +138,12 @@ public final class PromisesTest {
         Due.is("4: below", w.point(0, -1), -4);
         Due.is("4: no point", w.point(7, -1), -1);
         Due.is("4: no point below", w.point(-1, 0), -1);
-        Due.is("4: first and last have one neighbour", w.point(0, 100), 0);
+        Due.is("4: the first has none ahead", w.point(0, 100), 0);
+        Due.is("4: the second below the first", w.point(1, 99), -3);
+        Due.is("4: the last but one above the last", w.point(5, 10000), -6);
+        w.point(6, 3600);
+        Due.is("4: the last but one above the last", w.point(5, 3601), -3);
+        Due.is("4: as the last", w.point(5, 3600), 2500);
     }
 
     private static void coat() {
@@ -406,7 +413,10 @@ public final class PromisesTest {
             "29", "H0:h<1?1;;", "29", "H0:h<1)?1", "26", "H0:(h<1?1", "27", "H0:(h<1", "27", "H0:()", "24",
             "H0:!", "24", "H0:h<1&", "27", "H0:h<1|?", "27", "H0:h<1&&", "27", "H0:!!!!!h<1?1", "27",
             "H0:(((((h<1)))))?1", "27", "H0:!(!(!h<1))?1", "27", "H0:(!h<1", "28", "H0:h<1 ?1", "26", "H0:h<=1?1",
-            "25", "H0:h!1", "24", "h0:h<1?1", "20", "H0:W0<1?1", "23",
+            "25", "H0:h!1", "24", "h0:h<1?1", "20", "H0:W0<1?1", "23", "H0:h?1?1",
+            "24", "H0:w:<1?1", "24", "H0:h<:?1", "25", "H0:h<1:?1", "26", "H0:h<12:?1", "27", "H0:h<1&)", "27",
+            "H0:h<1&?1", "27", "H0:h<1|?1", "27", "H0:!?1", "24", "H0:(?1", "24", "H0:h<?1", "25", "H0:h<1&!)", "28",
+            "H0:h<1|(h<1&x", "32",
         };
         Due.is("17: nothing at all", w.text(), -20);
         for (int i = 0; i + 1 < texts.length; i += 2) {
@@ -441,6 +451,7 @@ public final class PromisesTest {
             "w0=150", "w0<151", "w0>149", "s=70", "h=0", "h<1", "w1=0", "w9<1", "!w0<150", "w0=150&s=70",
             "w0=1|s=70", "w0=1&s=1|h=0", "h=0|w0=1&s=1", "!(w0=1|s=1)", "!w0=1&s=70", "!!h=0", "(h=0|s=1)&s=70",
             "h=0|h=1|h=2", "h=2|h=1|h=0", "h=0&s=70&w0=150", "w0=1|(s=70&(h=0|h=1))",
+            "h=0&(h=0&s=70)", "h=0&(h=1|s=70)", "h=0&(h=0&(s=70&!h=1))",
         };
         String[] wrong = {
             "w0=151", "w0<150", "w0>150", "s<70", "h>0", "w1>0", "w8=150", "!w0=150", "w0=150&s=71", "w0=1|s=71",
@@ -453,6 +464,7 @@ public final class PromisesTest {
         for (String test : wrong) {
             Due.holds("17: does not hold: " + test, !holds(test));
         }
+        farFacts();
         WarmSide w = plates(2);
         w.heater(0, 7);
         w.flap(1);
@@ -478,6 +490,21 @@ public final class PromisesTest {
         w.state(0, false, 2);
         w.ticks(12);
         Due.is("17: nor a heater that is stuck", w.state(0, false, 0), 2);
+    }
+
+    /** Of 8 plates, all at 100, the last is w7; w8 and w9 are of none. */
+    private static void farFacts() {
+        WarmSide w = plates(8);
+        for (int p = 0; p < 8; p++) {
+            w.heat(p, 1000);
+        }
+        w.flap(0);
+        w.flap(7);
+        Due.is("17: of the first flap", Due.rule(w, "F0:w7=100&w8=0&w9=0?1;h=99?2"), 1);
+        Due.is("17: of the last flap", Due.rule(w, "F7:w8>0|w9>0?0;w7>0?1"), 1);
+        w.ticks(1);
+        Due.is("17: the first flap", w.of(0, 2), 1);
+        Due.is("17: the last flap", w.of(7, 2), 1);
     }
 
     private static void year() {
@@ -513,6 +540,12 @@ public final class PromisesTest {
         Due.is("19: no more", w.ticks(1), -6);
         Due.is("19: but -4", w.ticks(0), -4);
 
+        for (int t = 0; t <= 600; t += t % 100 < 2 || t % 100 > 97 ? 1 : 12) {
+            WarmSide u = plates(1);
+            u.heat(0, 10 * t + 9);
+            u.ticks(1);
+            Due.is("19: sent at " + t, u.sum(2), sending(t));
+        }
         WarmSide v = plates(2);
         v.heat(0, 1500);
         v.heat(1, 5500);
@@ -603,11 +636,12 @@ public final class PromisesTest {
         Due.is("22: nothing is changed", w.of(0, 1), 0);
         int[][] rows = {
             {300, 0, 5, 0, 0}, {900, 40, 1, 9, 0}, {900, 40, 1, 0, 9}, {20, 700, 99, 0, 0}, {500, 500, 3, 3, 3},
-            {0, 250, 2, 50, 1}, {1, 0, 99, 0, 0},
+            {0, 250, 2, 50, 1}, {1, 0, 99, 0, 0}, {900, 0, 0, 9, 0}, {0, 900, 0, 9, 7}, {0, 900, 0, 9, 0},
         };
         for (int[] row : rows) {
             greatestOfAll(row);
         }
+        pipesAtRest();
         WarmSide v = plates(1);
         v.flap(0);
         v.box(0, 300);
@@ -620,12 +654,31 @@ public final class PromisesTest {
         Due.is("22: heater stuck on", v.rest(0, 0), 240);
     }
 
+    private static void pipesAtRest() {
+        WarmSide w = plates(4);
+        w.box(0, 150);
+        w.pipe(0, 1, 1);
+        w.pipe(0, 2, 1);
+        w.pipe(3, 0, 1);
+        Due.is("22: what leads away to two", w.rest(0, 0), 74);
+        Due.is("22: one of them", w.rest(1, 0), 37);
+        Due.is("22: against its way", w.rest(3, 0), 0);
+        w.frozen(1, true);
+        Due.is("22: one is frozen", w.rest(0, 0), 100);
+        Due.is("22: it warms no more", w.rest(2, 0), 0);
+        Due.is("22: the other does", w.rest(1, 0), 50);
+        w.frozen(0, true);
+        Due.is("22: both are", w.rest(0, 0), 116);
+        w.frozen(1, false);
+        Due.is("22: the second alone leads", w.rest(2, 0), 50);
+    }
+
     /** Two plates: the greatest of all rows of two warmths, looked for among them all. */
     private static void greatestOfAll(int[] row) {
         WarmSide w = plates(2);
         w.box(0, row[0]);
         w.box(1, row[1]);
-        w.joint(0, 1, row[2]);
+        if (row[2] > 0) w.joint(0, 1, row[2]);
         if (row[3] > 0) w.pipe(0, 1, row[3]);
         if (row[4] > 0) w.pipe(1, 0, row[4]);
         int bestA = 0;
@@ -657,6 +710,9 @@ public final class PromisesTest {
         Due.is("23: the first", w.rests(0, 0), 0);
         Due.is("23: the second", w.rests(0, 1), 1);
         Due.is("23: not so many", w.rests(0, 2), -9);
+        w.state(0, false, 1);
+        Due.is("23: whatever it is now", w.rests(0, -1), 2);
+        w.state(0, false, 0);
         Due.rule(w, "H0:w0<200?1;w0>250?0");
         Due.is("23: off does not stay", w.rests(0, -1), 1);
         Due.is("23: on alone", w.rests(0, 0), 1);
@@ -772,11 +828,38 @@ public final class PromisesTest {
         Due.rule(u, "H0:w0=0?1;w0>69?0");
         Due.is("26: 60 rounds are tried", u.repeat(0), 60);
         Due.is("26: as behind 59", u.repeat(1), 59);
+        Due.rule(u, "H0:w0=0?1;w0>70?0");
+        Due.is("26: 61 would be too many", u.repeat(0), -9);
+        Due.rule(u, "H0:w0=0?1;w0>69?0");
         u.heat(0, 8);
         Due.is("26: from a heat of 8 a round less", u.repeat(0), 59);
         Due.is("26: a stuck flap stays so", u.of(0, 2), 3);
         Due.is("26: and is as it was", u.undo(), 1);
         Due.is("26: and as it was before", u.of(0, 2), 1);
+    }
+
+    /** Trials put back what texts changed in them. */
+    private static void trialsChangeNothing() {
+        WarmSide w = plates(3);
+        w.box(2, 500);
+        w.flap(1);
+        w.flap(2);
+        w.heater(2, 50);
+        Due.rule(w, "F1:h=5?0");
+        Due.rule(w, "F2:h=5?1");
+        Due.rule(w, "H0:h=5?1");
+        w.state(2, true, 0);
+        w.repeat(0);
+        Due.is("26: a flap is open as it was", w.of(1, 2), 2);
+        Due.is("26: a flap is shut as it was", w.of(2, 2), 0);
+        Due.is("26: a heater is off as it was", w.state(0, false, 0), 0);
+        w.marks(2, 0, 90);
+        w.work(0);
+        Due.is("38: a flap is open as it was", w.of(1, 2), 2);
+        Due.is("38: a flap is shut as it was", w.of(2, 2), 0);
+        Due.is("38: a heater is off as it was", w.state(0, false, 0), 0);
+        Due.is("38: plates without one have none", w.of(0, 2), -9);
+        Due.is("38: no heat is left", w.of(2, 1), 0);
     }
 
     private static void age() {
@@ -850,6 +933,13 @@ public final class PromisesTest {
         v.joint(0, 1, 3);
         v.joint(0, 2, 3);
         Due.is("29: of several the least", v.matters(0, 0), 0);
+        WarmSide u = plates(3);
+        u.box(0, 900);
+        u.joint(0, 1, 1);
+        u.joint(0, 2, 2);
+        u.joint(1, 2, 1);
+        Due.is("29: without a joint of 1 it leads nothing", u.matters(1, 0), 0);
+        Due.is("29: nor a joint of 2", u.matters(2, 0), 1);
         Due.is("29: no joints, but no plate first", new WarmSide().matters(0, 0), -1);
     }
 
@@ -901,6 +991,12 @@ public final class PromisesTest {
         Due.is("31: no joint", w.fits(1, 3), -1);
         Due.is("31: other", w.fits(0, 3), -2);
         Due.is("31: other below", w.fits(0, -1), -2);
+        WarmSide u = plates(2);
+        u.joint(0, 1, 50);
+        u.coat(0, 0, false, 100);
+        u.test(1, 400, 0, 85, 0);
+        Due.is("31: the box on the other plate", u.fits(0, 0), 1);
+        Due.is("31: leads of 1", u.fits(0, 2), 1);
         WarmSide v = plates(2);
         v.joint(0, 1, 50);
         v.test(0, 400, 0, 166, 5);
@@ -1024,6 +1120,14 @@ public final class PromisesTest {
         Due.is("36: nothing is changed", w.frozen(0, true), 0);
         Due.is("36: no hour", w.thaws(12, -1), -1);
         Due.is("36: below", w.thaws(0, -1), -4);
+        WarmSide v = plates(2);
+        for (int k = 0; k < 8; k++) {
+            v.pipe(0, 1, 1);
+            v.frozen(k, true);
+        }
+        v.freeze(0);
+        Due.is("36: the last of eight", v.thaws(0, 7), 7);
+        Due.is("36: no ninth", v.thaws(0, 8), -9);
         Due.is("36: no pipes", new WarmSide().thaws(0, 0), -9);
     }
 
@@ -1043,6 +1147,14 @@ public final class PromisesTest {
         w.freeze(0);
         Due.is("37: now it may", w.thaw(0), 1);
         Due.is("37: undone is nothing", w.undo(), -3);
+        WarmSide u = plates(2);
+        u.pipe(0, 1, 1);
+        u.frozen(0, true);
+        u.sun(3, 999);
+        u.freeze(1);
+        u.rest(0, 3);
+        Due.is("37: not in an hour without sun", u.thaw(0), 0);
+        Due.is("37: but in one with it", u.thaw(3), 1);
         WarmSide v = row();
         v.freeze(v.rest(2, 0) + 1);
         Due.is("37: both, one by the other", v.thaw(0), 2);
@@ -1112,6 +1224,11 @@ public final class PromisesTest {
         Due.is("39: boxes and heaters are alike", w.share(0, 0, 1, true), w.share(0, 0, 2, true));
         Due.is("39: sun by all", w.share(0, 0, 0, true), 2 * 100 + 33 + 33 + 2 * 20);
         Due.is("39: no sun in hour 1", w.share(0, 1, 0, true), 0);
+        WarmSide v = new WarmSide();
+        v.plate(1, 20, 0);
+        Due.is("39: nothing at all", v.share(0, 0, 0, false), 0);
+        v.sun(0, 999);
+        Due.is("39: from none of it", v.share(0, 0, 0, false), v.rest(0, 0));
         Due.is("39: no plate", w.share(1, 0, 3, true), STAR + 1);
         Due.is("39: no hour", w.share(0, 12, 0, false), STAR + 1);
         Due.is("39: other", w.share(0, 0, 3, false), STAR + 2);
@@ -1174,6 +1291,64 @@ public final class PromisesTest {
         u.ticks(1);
         Due.is("40: stuck again as it was", u.sum(2), 59);
         Due.is("40: a tick forgets", u.undo(), -3);
+    }
+
+    /** Acts of each kind on the last of each: what is undone and done again is that and nothing else. */
+    private static void actsApart() {
+        WarmSide w = plates(8);
+        w.sun(0, 200);
+        for (int k = 0; k < 8; k++) {
+            w.box(k, 100 + 50 * k);
+            w.pipe(k, (k + 1) % 8, 1);
+            w.flap(k);
+            w.heater(k, 150);
+        }
+        String[] seen = new String[7];
+        seen[0] = states(w);
+        w.works(7, false);
+        seen[1] = states(w);
+        w.state(3, false, 3);
+        seen[2] = states(w);
+        w.state(7, true, 1);
+        seen[3] = states(w);
+        w.state(7, true, 3);
+        seen[4] = states(w);
+        w.frozen(7, true);
+        seen[5] = states(w);
+        w.face(7, 1);
+        seen[6] = states(w);
+        for (int i = 5; i >= 0; i--) {
+            Due.is("40: undone", w.undo(), 1);
+            Due.holds("40: as it was with " + i, states(w).equals(seen[i]));
+            Due.holds("40: not as it was before", !seen[i].equals(seen[i + 1]));
+        }
+        for (int i = 1; i <= 6; i++) {
+            Due.is("41: done again", w.redo(), 1);
+            Due.holds("41: as it was with " + i, states(w).equals(seen[i]));
+        }
+        for (int i = 0; i < 60; i++) {
+            w.face(i % 8, i / 8 % 2 == 0 ? 0 : 2);
+        }
+        String last = states(w);
+        Due.is("40: 60 of 66 are kept", w.count(8), 60);
+        for (int i = 0; i < 60; i++) {
+            Due.is("40: one of 60", w.undo(), 1);
+        }
+        Due.holds("40: as before them", states(w).equals(seen[6]));
+        for (int i = 0; i < 60; i++) {
+            Due.is("41: one of 60", w.redo(), 1);
+        }
+        Due.holds("41: as behind them", states(w).equals(last));
+    }
+
+    /** What acts change, seen by answers that change nothing. */
+    private static String states(WarmSide w) {
+        StringBuilder b = new StringBuilder();
+        for (int k = 0; k < 8; k++) {
+            b.append(w.rest(k, 0)).append(' ');
+        }
+        b.append(w.of(7, 2));
+        return b.toString();
     }
 
     private static void redo() {
