@@ -205,7 +205,7 @@ public final class WarmSide {
             scene.burning = others | bits;
             scene.settle();
             if (!toldAlike(free, bits, hour)) continue;
-            if (found == i) return bits;
+            if (found == i) return scene.burning;
             found++;
         }
         return i < 0 ? found : NONE;

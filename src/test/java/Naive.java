@@ -550,22 +550,24 @@ final class Naive {
             Other o = new Other(hour);
             boolean fits = true;
             for (int k = 0; k < heaters.size(); k++) {
-                Heater h = heaters.get(k);
-                boolean free = h.state < 2 && h.rule != null;
-                if (free) o.on[k] = (bits >> k & 1) == 1;
-                if (!free && (bits >> k & 1) == 1) fits = false;
+                boolean on = (bits >> k & 1) == 1;
+                if (!varies(heaters.get(k)) && on != heaters.get(k).on()) fits = false;
+                o.on[k] = on;
             }
             if (!fits) continue;
             int[] w = o.rest();
             for (int k = 0; k < heaters.size(); k++) {
-                Heater h = heaters.get(k);
-                if (h.state >= 2 || h.rule == null) continue;
-                int s = told(h.rule, w, hour);
+                if (!varies(heaters.get(k))) continue;
+                int s = told(heaters.get(k).rule, w, hour);
                 if (s >= 0 && s != (bits >> k & 1)) fits = false;
             }
             if (fits) all.add(bits);
         }
         return i == -1 ? all.size() : i < all.size() ? all.get(i) : -9;
+    }
+
+    private static boolean varies(Heater h) {
+        return h.state < 2 && h.rule != null;
     }
 
     int span(int what, int v) {

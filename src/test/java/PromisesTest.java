@@ -721,6 +721,9 @@ public final class PromisesTest {
         Due.is("23: not one", w.rests(0, 0), -9);
         w.state(0, false, 3);
         Due.is("23: stuck: as it is", w.rests(0, -1), 1);
+        Due.is("23: stuck on is on", w.rests(0, 0), 1);
+        w.state(0, false, 2);
+        Due.is("23: stuck off is off", w.rests(0, 0), 0);
         w.state(0, false, 0);
         Due.rule(w, "H0:h=3&s=9?0;h=3?1");
         w.sun(3, 9);
@@ -741,10 +744,36 @@ public final class PromisesTest {
         Due.is("23: of three", v.rests(0, -1), 8);
         Due.is("23: without the one that is stuck", v.rests(0, 2), 4);
         v.state(1, false, 3);
-        Due.is("23: stuck on is no bit of these", v.rests(0, 2), 4);
+        Due.is("23: stuck on is a bit of each", v.rests(0, 0), 2);
+        Due.is("23: and the others vary", v.rests(0, 2), 6);
+        Due.is("23: up to all", v.rests(0, 7), 15);
         Due.rule(v, "H0:w0<150?0");
-        Due.is("23: one that is stuck on makes heat", v.rests(0, 1), 4);
-        Due.is("23: more with it", v.rests(0, 2), 5);
+        Due.is("23: one that is stuck on makes heat", v.rests(0, 1), 6);
+        Due.is("23: more with it", v.rests(0, 2), 7);
+        restsOfOthers();
+    }
+
+    /** Heaters that no text rules stay as now, and are bits if they are on. */
+    private static void restsOfOthers() {
+        WarmSide w = plates(1);
+        Due.is("23: no heaters: one rest", w.rests(0, -1), 1);
+        Due.is("23: with none on", w.rests(0, 0), 0);
+        w.heater(0, 1);
+        w.heater(0, 1);
+        w.heater(0, 1);
+        Due.is("23: all off", w.rests(0, 0), 0);
+        w.state(0, false, 1);
+        Due.is("23: on without a text", w.rests(0, 0), 1);
+        w.state(2, false, 1);
+        Due.is("23: two of them", w.rests(0, 0), 5);
+        Due.is("23: still one rest", w.rests(0, -1), 1);
+        Due.is("23: and no second", w.rests(0, 1), -9);
+        Due.rule(w, "H1:w0>599?0");
+        Due.is("23: two with a text between", w.rests(0, -1), 2);
+        Due.is("23: off between", w.rests(0, 0), 5);
+        Due.is("23: on between", w.rests(0, 1), 7);
+        w.state(2, false, 0);
+        Due.is("23: off without a text", w.rests(0, 1), 3);
     }
 
     private static void span() {
